@@ -1538,12 +1538,9 @@ public final class LullabyPit {
       }
     }
 
+    /** Those with as many digs come rising: of alike ones the first stays. */
     private void consider(int pence, int many, long cells) {
-      if (pence < bestPence || (pence == bestPence && many > bestMany)) {
-        return;
-      }
-      // Of alike ones with as many digits the first has the least number.
-      if (pence > bestPence || many < bestMany || cells < bestCells) {
+      if (pence > bestPence || (pence == bestPence && many < bestMany)) {
         bestPence = pence;
         bestMany = many;
         bestCells = cells;
