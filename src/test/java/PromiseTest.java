@@ -36,6 +36,7 @@ public final class PromiseTest {
     orders();
     shifts();
     canDig();
+    edges();
     fallsAndRisks();
     water();
     harm();
@@ -422,6 +423,29 @@ public final class PromiseTest {
     same("15: OPEN ahead of WET", p().can(1, 1), 1);
     kit.index("15: none", () -> p().can(3, 0));
     kit.index("15: none", () -> p().can(0, 4));
+  }
+
+  /** Rows of 8 lie behind each other in 8 Y and X; yet a row's end is not beside the next row's first. */
+  private static void edges() {
+    fresh("size 8 3;seam 7 0 1 1 4 4;seam 0 1 1 1 4 4;shaft 7;shaft 0;crew 9;");
+    kit.law(0, "0");
+    kit.work("dig 7 0;");
+    same("15: not beside", p().can(0, 1), 2);
+    same("20: a way round", p().way(0, 1, 0), 2);
+    kit.work("dig 0 0;dig 0 1;");
+    same("10: wide to the right", p().cell(7, 0, 3), 1);
+    same("10: wide to the left", p().cell(0, 1, 3), 1);
+    same("34: at HAND", p().sums(3), 5);
+    kit.law(1, "props");
+    kit.work("prop 7 0;");
+    same("18: none to the left", p().harm(0, 1), 0);
+    same("18: one to the right", p().harm(6, 0), 1);
+    kit.work("prop 0 1;");
+    same("18: none to the right", p().harm(7, 0), 0);
+    same("18: one to the left", p().harm(1, 1), 1);
+    fresh("size 8 2;shaft 0;");
+    kit.work("dig 0 0;dig 0 1;");
+    same("15: nor the other way", p().can(7, 0), 2);
   }
 
   private static void fallsAndRisks() {
