@@ -1362,7 +1362,7 @@ public final class LullabyPit {
       seconds[step] = length - step - 1;
     }
 
-    void run(Mine mine, int from, int to, int depth) {
+    private void run(Mine mine, int from, int to, int depth) {
       for (int step = from; step < to && step < MOST_STEPS && begun < MOST_BEGUN; step++) {
         begun++;
         if (ops[step] == AGAIN) {

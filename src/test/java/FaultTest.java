@@ -40,6 +40,7 @@ public final class FaultTest {
   }
 
   private static void clauses() {
+    kit.fresh();
     pit(";", 1, 0);
     pit("  ;", 1, 2);
     pit("crew", 1, 4);
@@ -78,6 +79,7 @@ public final class FaultTest {
   }
 
   private static void numbers() {
+    kit.fresh();
     pit("size 0 1;", 2, 5);
     pit("size 9 1;", 2, 5);
     pit("size 1 0;", 2, 7);
@@ -110,6 +112,7 @@ public final class FaultTest {
   }
 
   private static void tooMany() {
+    kit.fresh();
     String sixty = "crew 1;".repeat(60);
     good(sixty);
     pit(sixty + "crew 1;", 3, 420);
@@ -130,6 +133,7 @@ public final class FaultTest {
   }
 
   private static void laws() {
+    kit.fresh();
     law("", 1, 0);
     law("  ", 1, 2);
     law("wide -", 1, 6);
@@ -163,6 +167,7 @@ public final class FaultTest {
   }
 
   private static void works() {
+    kit.fresh();
     kit.pit("size 4 3;");
     work(";", 1, 0);
     work("dig 0 0", 1, 7);
@@ -200,6 +205,7 @@ public final class FaultTest {
   }
 
   private static void books() {
+    kit.fresh();
     book("0", 1, 1);
     book("0 1", 1, 3);
     book("0 1 1;", 1, 4);

@@ -4,7 +4,9 @@ import java.util.concurrent.Callable;
 /** Runs of calls drawn by seeds, on LullabyPit and on the oracle: both answer and throw alike. */
 public final class FuzzTest {
   private static final int RUNS = 3000;
-  private static final int CALLS = 150;
+  private static final int ROUNDS = 150;
+  // An object is good for 512 calls; a round makes some 50 at most.
+  private static final int CALLS = 440;
   private static final int FALLS = 8;
   private static final int RISKS = 9;
   private static final int HOLD = 14;
@@ -14,6 +16,7 @@ public final class FuzzTest {
   private final Oracle oracle = new Oracle();
   private final StringBuilder told = new StringBuilder();
   private int wrong = 0;
+  private int calls = 0;
 
   private FuzzTest(long seed) {
     random = new Random(seed);
@@ -34,7 +37,7 @@ public final class FuzzTest {
 
   private int run(long seed) {
     text(pitText(), 600, n -> pit.pit(n), n -> oracle.pit(n), "pit");
-    for (int i = 0; i < CALLS && wrong == 0; i++) {
+    for (int i = 0; i < ROUNDS && calls < CALLS && wrong == 0; i++) {
       one();
     }
     if (wrong != 0) {
@@ -65,6 +68,7 @@ public final class FuzzTest {
   }
 
   private void same(String name, Callable<?> a, Callable<?> b) {
+    calls++;
     Object got = answer(a);
     Object due = answer(b);
     told.append(name).append(" -> ").append(got).append('\n');
@@ -82,6 +86,7 @@ public final class FuzzTest {
     String cut = text.length() > most ? text.substring(0, most) : text;
     Kit.feed(pit, cut);
     for (int i = 0; i < cut.length(); i += 20) {
+      calls++;
       int[] numbers = new int[5];
       for (int j = 0; j < 20; j++) {
         numbers[j / 4] = numbers[j / 4] << 8 | (i + j < cut.length() ? cut.charAt(i + j) : 0);

@@ -2,7 +2,8 @@ import java.lang.management.ManagementFactory;
 
 /** What a run makes stays far below the room of one run: 600,000 objects, 7.3 million elements. */
 public final class RoomTest {
-  private static final int CALLS = 512;
+  // An object is good for 512 calls; some 60 make it ready.
+  private static final int CALLS = 450;
   // In bytes: less than 16 for each object and 8 for each element of a hundredth of the room.
   private static final long MOST_BYTES = 300_000;
 
@@ -32,11 +33,15 @@ public final class RoomTest {
   }
 
   private static void within(String name, Call call) {
+    within(name, 1, call);
+  }
+
+  private static void within(String name, int callsEach, Call call) {
     LullabyPit warm = deepest();
     call.on(warm);
     long before = BEAN.getThreadAllocatedBytes(Thread.currentThread().getId());
     LullabyPit pit = deepest();
-    for (int i = 0; i < CALLS; i++) {
+    for (int i = 0; i < CALLS / callsEach; i++) {
       call.on(pit);
     }
     long made = BEAN.getThreadAllocatedBytes(Thread.currentThread().getId()) - before;
@@ -53,11 +58,11 @@ public final class RoomTest {
     within("owners", p -> p.owners(1, 20, 0));
     within("decade", p -> p.decade(1, 3, 40, 0));
     within("risks", p -> p.risks(0, 3));
-    within("image and restore", p -> {
+    within("image and restore", 2, p -> {
       p.image();
       p.restore();
     });
-    within("work and undo", p -> {
+    within("work and undo", 3, p -> {
       p.feed(0x7368_6966, 0x743b_2020, 0, 0, 0);
       p.work(6);
       p.undo();
