@@ -865,6 +865,11 @@ public final class AskEdgeTest {
     fresh("size 1 1;shaft 0;");
     work("dig 0 0;");
     same("31: all is OPEN", p().pick(), NONE);
+    fresh("size 1 1;water 0 0;shaft 0;");
+    law(0, "1");
+    work("dig 0 0;pump;");
+    same("31: FALLEN and dry", p().can(0, 0), 0);
+    same("31: water that FELL is water", p().pick(), NONE);
     fresh("size 8 6;seam 7 5 1 1 1 1;");
     same("31: nothing is at HAND", p().pick(), NONE);
   }
