@@ -112,7 +112,7 @@ public final class LullabyPit {
       return tape.fault - FAULT_BASE;
     }
     past.keep(mine);
-    program.run(mine, 0, program.length, 0);
+    Program.run(program, mine, 0, program.length, 0);
     refusedSteps = program.refused;
     return program.done;
   }
@@ -303,12 +303,12 @@ public final class LullabyPit {
   public int span(int seed, int many, int q, int shifts, int what)
       throws IllegalArgumentException {
     need(many >= 1 && many <= 20 && isDecade(q, shifts) && what >= 0 && what <= 2);
-    int fewest = Integer.MAX_VALUE;
+    int fewest = 0;
     int most = 0;
     int unhurt = 0;
     for (int i = 0; i < many; i++) {
       decade.play(mine, seed + i, q, shifts);
-      fewest = Math.min(fewest, decade.bars);
+      fewest = i == 0 ? decade.bars : Math.min(fewest, decade.bars);
       most = Math.max(most, decade.bars);
       unhurt += decade.fell == 0 ? 1 : 0;
     }
@@ -1362,19 +1362,20 @@ public final class LullabyPit {
       seconds[step] = length - step - 1;
     }
 
-    private void run(Mine mine, int from, int to, int depth) {
-      for (int step = from; step < to && step < MOST_STEPS && begun < MOST_BEGUN; step++) {
-        begun++;
-        if (ops[step] == AGAIN) {
-          int inside = seconds[step];
-          for (int i = 0; i < firsts[step] && depth < MOST_OPEN; i++) {
-            run(mine, step + 1, step + 1 + inside, depth + 1);
+    private static void run(Program program, Mine mine, int from, int to, int depth) {
+      for (int step = from; step < to && step < MOST_STEPS && program.begun < MOST_BEGUN; step++) {
+        program.begun++;
+        int first = program.firsts[step];
+        int second = program.seconds[step];
+        if (program.ops[step] == AGAIN) {
+          for (int i = 0; i < first && depth < MOST_OPEN; i++) {
+            run(program, mine, step + 1, step + 1 + second, depth + 1);
           }
-          step += inside;
-        } else if (isDone(mine, ops[step], firsts[step], seconds[step])) {
-          done++;
+          step += second;
+        } else if (isDone(mine, program.ops[step], first, second)) {
+          program.done++;
         } else {
-          refused++;
+          program.refused++;
         }
       }
     }
@@ -1513,27 +1514,28 @@ public final class LullabyPit {
       bestPence = 0;
       bestMany = 0;
       bestCells = 0;
-      search(mine, 0, most, 0, 0);
+      search(this, mine, 0, most, 0, 0);
     }
 
-    private void search(Mine mine, int many, int most, int pence, long cells) {
+    private static void search(
+        Survey survey, Mine mine, int many, int most, int pence, long cells) {
       if (many >= most || many >= MOST_DIGS) {
         return;
       }
       long able = mine.ableCells();
-      Mine trial = trials[many];
+      Mine trial = survey.trials[many];
       for (int at = 0; at < CELLS; at++) {
         if ((able >>> at & 1) == 0) {
           continue;
         }
         int sum = pence + mine.penceLeft(at);
         long digits = cells * BASE + at + 1;
-        consider(sum, many + 1, digits);
+        survey.consider(sum, many + 1, digits);
         // What FALLS by the last dig is not asked.
         if (many + 1 < most) {
           trial.copyFrom(mine);
           trial.breakOpen(at);
-          search(trial, many + 1, most, sum, digits);
+          search(survey, trial, many + 1, most, sum, digits);
         }
       }
     }
